@@ -442,7 +442,7 @@ public final class IndentedNotes {
             nodes.addEntry(table, key, value);
         }
 
-        private void skipNaming() {
+        private void readNaming() {
             if (cursor.here() != '&') {
                 return;
             }
@@ -464,7 +464,7 @@ public final class IndentedNotes {
         }
 
         private int readValue(int depth, boolean inside) {
-            skipNaming();
+            readNaming();
             switch (cursor.here()) {
                 case '*':
                     return readRepeat();
@@ -801,7 +801,7 @@ public final class IndentedNotes {
         }
 
         private int readPart(int column, int depth, boolean isItem) {
-            values.skipNaming();
+            values.readNaming();
             if (cursor.isAtEnd()) {
                 cursor.goToLine(cursor.line + 1);
                 return cursor.depth() > column ? readBlock(depth, true) : values.begin(NOTHING, 0, depth);

@@ -43,6 +43,10 @@ public final class LimitsTest {
         Due.same("a table at eight", Due.typed("[[[[[[[{}]]]]]]]").load(), 8);
         Due.refuses("[[[[[[[{a: }]]]]]]]");
         Due.same("keys at eight", Due.typed("[[[[[[{a: }]]]]]]").load(), 9);
+        Due.same("keys in lines at eight", Due.typed("- - - - - - a:").load(), 9);
+        Due.refuses("- - - - - - - a:");
+        Due.same("values in lines at eight", Due.typed("a:\n b:\n  c:\n   d:\n    - - - 1").load(), 12);
+        Due.refuses("a:\n b:\n  c:\n   d:\n    - - - - 1");
         Due.same("a piece at eight", Due.typed("- - - - - - - |").load(), 8);
         Due.refuses("- - - - - - - - |");
         Due.loads("&a [[[[[[[[*a]]]]]]]]", "&a [[[[[[[[*a]]]]]]]]");

@@ -12,6 +12,8 @@ public final class LinesTest {
     private static void outermost() {
         Due.loads("", "null");
         Due.loads("\n\n", "null");
+        Due.loads("\n".repeat(200), "null");
+        Due.loads("\n".repeat(199) + "x", "\"x\"");
         Due.loads("   \n  # a\n#\n", "null");
         Due.loads("   x  ", "\"x\"");
         Due.loads("# c\n\n   x\n # d\n\n", "\"x\"");

@@ -7,8 +7,8 @@ import java.util.Random;
 public final class RandomTest {
     private static final String[] WORDS = {
         "- ", "- ", "-", "\n", "\n", "\n", "\n  ", "\n  ", "\n    ", "\n- ", "\n- ", "\n  - ", " ", "a: ", "b: ", "c:",
-        "\"d\": ", "[", "]", "{", "}", "{e: ", ", ", ",", "&a ", "&b", "*a", "*b", "|", "|-", "x", "y z", "'q'", "\"\\n\"",
-        "1", "0x1", "-2", "~", "true", "#", ":", "'", "\"", "\\"};
+        "\"d\": ", "[", "]", "{", "}", "{e: ", ", ", ",", "&a ", "&b", "*a", "*b", "|", "|-", "x", "y z", "'q'",
+        "\"\\n\"", "1", "0x1", "-2", "~", "true", "#", ":", "'", "\"", "\\"};
     private static int loadedTexts = 0;
 
     public static void main(String[] args) {

@@ -54,6 +54,8 @@ public final class ValueTest {
         Due.refuses("{a:[1]}");
         Due.refuses("{a}");
         Due.refuses("{a, b: 1}");
+        Due.refuses("{ a}");
+        Due.refuses("{ a, b: 1}");
         Due.refuses("{a]: 1}");
         Due.refuses("{\"a\" : 1}");
         Due.refuses("{\"a\":1}");
@@ -113,7 +115,7 @@ public final class ValueTest {
         Due.loads("[999999999999999999, -999999999999999999]", "[999999999999999999, -999999999999999999]");
         Due.loads("[1000000000000000000, -0000000000000000000]",
             "[\"1000000000000000000\", \"-0000000000000000000\"]");
-        Due.loads("[0x0, 0x1f, 0xffffffffffffff, 0x00000000000010]", "[0, 31, 72057594037927935, 16]");
+        Due.loads("[0x0, 0x1f, 0xa9, 0xffffffffffffff, 0x00000000000010]", "[0, 31, 169, 72057594037927935, 16]");
         Due.loads("[0x, 0xg, 0x1F, 0X1, 0x000000000000010]",
             "[\"0x\", \"0xg\", \"0x1F\", \"0X1\", \"0x000000000000010\"]");
         Due.loads("[-0x1, +0x1, +, --1, +-1, 1.5, 1 2, 1e3, a1, 10x1]",
