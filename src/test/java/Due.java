@@ -85,6 +85,32 @@ final class Due {
         return all;
     }
 
+    /** All that can be seen of what is loaded and written out, without a change to it. */
+    static String looks(IndentedNotes x) {
+        StringBuilder all = new StringBuilder();
+        int n = 0;
+        for (; x.kind(n) != IndentedNotes.NONE; n++) {
+            int kind = x.kind(n);
+            all.append(n).append(" is ").append(kind).append(" of ").append(x.size(n)).append(':');
+            for (int i = 0; i < x.size(n); i++) {
+                all.append(' ').append(kind == 3 ? x.letter(n, i) : x.item(n, i));
+                all.append(kind == 5 ? " at " + x.key(n, i) : "");
+            }
+            all.append(kind == 1 || kind == 2 ? " " + x.number(n) : "").append("; ");
+        }
+        return all.append("written ").append(written(x)).toString();
+    }
+
+    /** The nodes of the text must be of these kinds, in their order. */
+    static void kinds(String text, int... want) {
+        IndentedNotes x = typed(text);
+        same("how many nodes " + text + " has", x.load(), want.length);
+        for (int n = 0; n < want.length; n++) {
+            same("the kind of node " + n + " of " + text, x.kind(n), want[n]);
+        }
+        same("behind the nodes of " + text, x.kind(want.length), IndentedNotes.NONE);
+    }
+
     /** The text must load, and be this when it is written out. */
     static void loads(String text, String want) {
         IndentedNotes x = typed(text);
