@@ -135,6 +135,7 @@ public final class BoundLimitsTest {
         Due.same("a table at 8", Due.typed("[[[[[[[{}]]]]]]]").load(), 8);
         Due.same("a key and a value at 8", Due.typed("[[[[[[{a: 1}]]]]]]").load(), 9);
         Due.same("a key and nothing at 8", Due.typed("[[[[[[{a:}]]]]]]").load(), 9);
+        Due.loads("[[[[[[{a: 1, b: [], 2:}]]]]]]", "[[[[[[{\"a\": 1, \"b\": [], 2: null}]]]]]]");
         Due.refuses("[[[[[[[{a: 1}]]]]]]]");
         Due.refuses("[[[[[[[{a:}]]]]]]]");
         Due.refuses("[&x 1, [[[[[[{a: *x}]]]]]]]");
